@@ -5,6 +5,7 @@ public final class FiguresTest {
         theHeldShareIsTold();
         theMeanIsTold();
         soundnessHolds();
+        aFullObjectAnswers();
         Check.end();
     }
 
@@ -82,5 +83,32 @@ public final class FiguresTest {
             }
             Check.same("at tick " + i, x.isSound(), true);
         }
+    }
+
+    private static void aFullObjectAnswers() {
+        KioskReel x = Check.row(6);
+        for (int i = 0; i < 8; i++) {
+            x.list();
+            for (int k = 0; k < 20; k++) {
+                x.line(i, k, k % 2 == 0 ? 's' : 'v', k % 2 == 0 ? 20 * (i % 5) + k : 0);
+            }
+        }
+        for (int i = 0; i < 6; i++) {
+            x.start(i, i);
+        }
+        for (int i = 0; i < 10; i++) {
+            Check.visitorAt(x, i % 6);
+        }
+        Check.same("ticks with ten visitors", x.tick(50), 60);
+        Check.same("done", x.done(), 6 * (10 + 9 + 40 * 8));
+        Check.sameDouble("mean", x.meanSeen(), 10.0);
+        Check.same("lines of a full list", x.lines(7, 'v'), 10);
+        for (int i = 0; i < 6; i++) {
+            x.freeze(i);
+        }
+        x.tick(5);
+        Check.same("all of them come", x.thaw(5), 6);
+        Check.sameText("their order", Check.playersAt(x, 5), "5 0 1 2 3 4");
+        Check.same("sound", x.isSound(), true);
     }
 }

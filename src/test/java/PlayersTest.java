@@ -23,7 +23,9 @@ public final class PlayersTest {
         listsAreCalled();
         aPileHasFourLists();
         listsThatAreMissingAreNotCalled();
+        aMissingListIsNotOnThePile();
         endedListsAreTakenAwayInTheNextTurn();
+        numbersGoWithTheirLines();
         changesWaitForTheNextBeginning();
         aCalledListHasItsLinesOfTheCall();
         ticksHaveARange();
@@ -275,6 +277,21 @@ public final class PlayersTest {
         Check.same("and is one line", x.done(), 7);
     }
 
+    private static void aMissingListIsNotOnThePile() {
+        KioskReel x = Check.playing("c1 c2 c3 c4 c5 c6 c7 p1");
+        x.tick(1);
+        Check.same("next behind a missing list", x.next(0), 108);
+        x.list();
+        x.tick(1);
+        Check.same("next behind the beginning and seven", x.next(0), 107);
+        x.tick(1);
+        Check.same("next behind p, a beginning and six", x.next(0), 106);
+        KioskReel y = Check.playing("c1 c2 c3 c4 c5 c6 c7 p1");
+        y.list();
+        y.tick(1);
+        Check.same("next in a list without lines", y.next(0), 200);
+    }
+
     private static void endedListsAreTakenAwayInTheNextTurn() {
         KioskReel x = Check.row(1);
         Check.list(x, "p1 w1");
@@ -288,6 +305,22 @@ public final class PlayersTest {
         x.tick(1);
         Check.same("all taken away", x.next(0), 102);
         Check.same("done by the w alone", x.done(), 5);
+    }
+
+    private static void numbersGoWithTheirLines() {
+        KioskReel x = Check.row(1);
+        x.list();
+        x.line(0, 0, 's', 3);
+        x.line(0, 0, 's', 2);
+        x.line(0, 0, 's', 9);
+        x.line(0, 0, 's', 1);
+        x.line(0, 4, 's', 4);
+        x.cut(0, 1);
+        x.start(0, 0);
+        for (int i = 1; i <= 4; i++) {
+            x.tick(1);
+            Check.same("slide of the line", x.slide(0), i);
+        }
     }
 
     private static void changesWaitForTheNextBeginning() {
