@@ -2,6 +2,7 @@
 final class Check {
     private static int asked;
     private static int wrong;
+    private static String heading = "";
 
     private Check() {
     }
@@ -10,11 +11,24 @@ final class Check {
         void run();
     }
 
+    /** What stands ahead of each answer that is not as due, from now on. */
+    static void setHeading(String text) {
+        heading = text;
+    }
+
+    static int asked() {
+        return asked;
+    }
+
+    private static void tell(String what, Object got, Object due) {
+        wrong++;
+        System.out.println(heading + what + ": answered " + got + ", due is " + due);
+    }
+
     static void same(String what, long got, long due) {
         asked++;
         if (got != due) {
-            wrong++;
-            System.out.println(what + ": answered " + got + ", due is " + due);
+            tell(what, got, due);
         }
     }
 
@@ -25,16 +39,14 @@ final class Check {
     static void sameDouble(String what, double got, double due) {
         asked++;
         if (Double.compare(got, due) != 0) {
-            wrong++;
-            System.out.println(what + ": answered " + got + ", due is " + due);
+            tell(what, got, due);
         }
     }
 
     static void sameText(String what, String got, String due) {
         asked++;
         if (!got.equals(due)) {
-            wrong++;
-            System.out.println(what + ": answered " + got + ", due is " + due);
+            tell(what, got, due);
         }
     }
 
