@@ -160,19 +160,7 @@ final class ListEdges {
         Edge.range("list of 8", Edge.BOUNDS, 0, 7, x -> lists(x, 8),
                 (x, list) -> x.line(list, 0, 's', 1));
         Edge.names(3, "`kind`: the kind");
-        for (int from = 0; from < 65536; from += 256) {
-            KioskReel x = new KioskReel();
-            x.list();
-            for (int i = from; i < from + 256; i++) {
-                char kind = (char) i;
-                if (KINDS.indexOf(kind) < 0) {
-                    Check.refused("kind " + i, Edge.ARGUMENT, () -> x.line(0, 0, kind, 1));
-                } else {
-                    x.line(0, 0, kind, 1);
-                    Check.same("kind " + i, x.lines(0, kind), 1);
-                }
-            }
-        }
+        everyKind((x, kind) -> x.line(0, 0, (char) kind, 1));
         Edge.names(3, "`number`: the number");
         for (int i = 0; i < KINDS.length(); i++) {
             numbersOf(i);
@@ -194,6 +182,22 @@ final class ListEdges {
         numbersOf(7);
         Edge.names(3, "'p' plays the list of this number, 0 to 7");
         numbersOf(8);
+    }
+
+    /** The call is taken with the nine kinds, and refused with every other character. */
+    private static void everyKind(Edge.Numbered call) {
+        for (int from = 0; from < 65536; from += 256) {
+            KioskReel x = new KioskReel();
+            x.list();
+            for (int i = from; i < from + 256; i++) {
+                int kind = i;
+                if (KINDS.indexOf((char) kind) < 0) {
+                    Check.refused("kind " + kind, Edge.ARGUMENT, () -> call.on(x, kind));
+                } else {
+                    Edge.taken("kind " + kind, KioskReel::list, y -> call.on(y, kind));
+                }
+            }
+        }
     }
 
     private static void numbersOf(int kind) {
@@ -374,18 +378,7 @@ final class ListEdges {
         Edge.range("list of 3", Edge.BOUNDS, 0, 2, Rows::bare, (x, n) -> x.lines(n, 's'));
         Edge.range("list of 8", Edge.BOUNDS, 0, 7, Rows::full, (x, n) -> x.lines(n, 's'));
         Edge.names(5, "`kind`: the kind");
-        for (int from = 0; from < 65536; from += 256) {
-            KioskReel x = new KioskReel();
-            x.list();
-            for (int i = from; i < from + 256; i++) {
-                char kind = (char) i;
-                if (KINDS.indexOf(kind) < 0) {
-                    Check.refused("kind " + i, Edge.ARGUMENT, () -> x.lines(0, kind));
-                } else {
-                    Check.same("kind " + i, x.lines(0, kind), 0);
-                }
-            }
-        }
+        everyKind((x, kind) -> x.lines(0, (char) kind));
         Edge.names(5, "Throws `IndexOutOfBoundsException` if there is no such list");
         Edge.refused("list 6", Edge.BOUNDS, Rows::busy, x -> x.lines(6, 's'));
         Edge.refused("list -1", Edge.BOUNDS, Rows::busy, x -> x.lines(-1, 's'));
