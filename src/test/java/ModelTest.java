@@ -91,7 +91,7 @@ public final class ModelTest {
     }
 
     /** The answer of one of the two, the other being null. */
-    private static String answer(KioskReel x, Model m, int[] c) {
+    static String answer(KioskReel x, Model m, int[] c) {
         try {
             return x == null ? ofModel(m, c) : ofClass(x, c);
         } catch (RuntimeException e) {
